@@ -1827,12 +1827,13 @@ public final class CheesePost {
         }
 
         void deliver() {
+            int sets = 1 << alps.wheels;
             findCheapest();
-            for (int used = 0; used < 1 << MOST_WHEELS; used++) {
+            for (int used = 0; used < sets; used++) {
                 bestFrom[alps.letters][used] = 0;
             }
             for (int letter = alps.letters - 1; letter >= 0; letter--) {
-                for (int used = 0; used < 1 << MOST_WHEELS; used++) {
+                for (int used = 0; used < sets; used++) {
                     bestFrom[letter][used] = bestOf(letter, used);
                 }
             }
@@ -2003,7 +2004,7 @@ public final class CheesePost {
 
         private int planOf(int set) {
             int least = TOO_FAR;
-            for (int trip = 1; trip <= set; trip++) {
+            for (int trip = set; trip > 0; trip = trip - 1 & set) {
                 if (canBeFirst(trip, set)) {
                     least = Math.min(least, with(trip, set));
                 }
