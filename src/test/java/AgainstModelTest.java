@@ -11,13 +11,17 @@ public final class AgainstModelTest {
     private final CheesePostModel model = new CheesePostModel();
     private final List<String> log = new ArrayList<>();
     private final boolean small;
+    private final boolean gentle;
     private int houses;
     private int dairies;
     private int wheels;
 
     private AgainstModelTest(long seed) {
-        random = new Random(seed);
+        // Seeds that follow one another begin alike, so they are spread first.
+        random = new Random(seed * 0x9E3779B97F4A7C15L);
         small = random.nextInt(4) > 0;
+        // On a slope left nearly bare WHEELS come to HOUSES often.
+        gentle = random.nextInt(2) > 0;
     }
 
     public static void main(String[] args) throws Exception {
@@ -72,7 +76,7 @@ public final class AgainstModelTest {
     }
 
     private boolean run() throws Exception {
-        for (int i = 0; i < 4; i++) {
+        for (int i = 0; i < (gentle ? 2 : 4); i++) {
             if (!setUp()) return false;
         }
         int calls = 60 + below(200);
@@ -86,7 +90,12 @@ public final class AgainstModelTest {
     }
 
     private boolean setUp() throws Exception {
-        if (below(3) == 0) {
+        if (gentle) {
+            for (int i = 0; i < 3; i++) {
+                int cell = below(80);
+                if (!call("height", cell, Math.max(0, Math.min(99, 90 - cell / 8 * 10 + below(12) - 6)))) return false;
+            }
+        } else if (below(3) == 0) {
             for (int c = 0; c < 80; c++) {
                 if (below(3) > 0 && !call("height", c, below(100))) return false;
             }
@@ -98,13 +107,14 @@ public final class AgainstModelTest {
         for (int i = 0; i < 6; i++) {
             if (!call("fence", below(80), below(4) == 0 ? 9 : below(5))) return false;
         }
-        return make("house") && make("house") && make("dairy") && make("wheel") && make("wheel");
+        return make("dairy") && make("house") && make("house") && make("wheel") && make("wheel");
     }
 
     private boolean make(String what) throws Exception {
         int most = small ? 3 : 9;
         if (what.equals("house")) {
-            boolean ok = call("house", near(0, 79), near(0, 9));
+            int cell = gentle && dairies > 0 ? model.w.dairies.get(below(dairies)) + 8 * below(6) + below(3) - 1 : near(0, 79);
+            boolean ok = call("house", cell, near(0, 9));
             houses = program.count(0);
             return ok;
         }
@@ -121,10 +131,11 @@ public final class AgainstModelTest {
     }
 
     private boolean step() throws Exception {
+        if (program.count(3) * 2 > wheels && below(2) == 0) return call("undo");
         switch (below(40)) {
-            case 0: return call("height", near(0, 79), near(0, 99));
+            case 0: return gentle || call("height", near(0, 79), near(0, 99));
             case 1: return call("fence", near(0, 79), near(0, 9));
-            case 2: return make("house");
+            case 2: return below(3) > 0 || make("house");
             case 3: return make("dairy");
             case 4: return make("wheel");
             case 5: return call("letter", near(0, houses - 1), near(1, 99));
@@ -135,7 +146,7 @@ public final class AgainstModelTest {
                 return call("terms", near(0, 3) == what ? what : near(0, 3), near(0, what == 0 ? 99 : 20));
             }
             case 9: return tapeGames();
-            case 10: return heightRow();
+            case 10: return gentle && below(5) > 0 || heightRow();
             case 11:
             case 12: return lawText();
             case 13:
@@ -149,9 +160,9 @@ public final class AgainstModelTest {
             case 21: return call("send", cast()) && call("came", near(0, houses - 1), near(0, 1));
             case 22: return call("send", cast()) && call("status");
             case 23: return call("undo");
-            case 24: return call("aim", near(0, houses - 1), near(0, 3));
+            case 24: return aims();
             case 25: return !small && below(10) > 0 || call("sure", near(0, houses - 1), near(0, 1), near(0, 2));
-            case 26: return program.count(4) > 5 && below(10) > 0 || call("post", near(0, 2 + program.count(4)));
+            case 26: return posts();
             case 27: return call("trace", near(0, 79), near(0, 1));
             case 28: return below(3) > 0 || call("forget");
             case 29: return call("fits", -1) && call("fits", near(-1, 40)) && traceBroken();
@@ -273,6 +284,7 @@ public final class AgainstModelTest {
             s.append(new String[] {"slows ", "costs ", "shuts", "eats"}[kind]);
             if (kind < 2) s.append(n > 8 ? "1" : sum(2, LAW_WORDS));
             if (kind == 2 && below(3) > 0) s.append(" if x = " + below(8) + " and y > " + below(9));
+            else if (kind == 3 && below(2) == 0) s.append(" if hunger > " + below(9));
             else if (n <= 8 && below(3) > 0 || kind == 2) s.append(" if ").append(test(3, LAW_WORDS));
         }
         String text = spoiled(s.toString());
@@ -335,6 +347,20 @@ public final class AgainstModelTest {
         }
         int end = program.slips(cast, k, 2);
         return call("ends", cast, k, end) && call("ends", cast, k, below(2) == 0 ? near(0, 79) : near(100, 107));
+    }
+
+    private boolean aims() throws Exception {
+        int house = near(0, houses - 1);
+        return call("aim", house, 0) && call("aim", house, 1) && call("aim", house, 2) && call("aim", house, near(0, 3));
+    }
+
+    private boolean posts() throws Exception {
+        int letters = program.count(4);
+        if (letters > 6 && below(10) > 0) return true;
+        for (int what = 0; what < 3 + letters; what++) {
+            if (!call("post", what)) return false;
+        }
+        return call("post", near(0, 2 + letters));
     }
 
     private boolean walls() throws Exception {
