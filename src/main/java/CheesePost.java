@@ -465,6 +465,7 @@ public final class CheesePost {
             return NONE;
         }
         judge.renew();
+        casts.findCheapest();
         casts.deliver();
         switch (what) {
             case 0: return casts.postWorth;
@@ -1732,12 +1733,6 @@ public final class CheesePost {
                     && dairyOf(cast) < alps.meadow.dairies && alps.gone[wheelOf(cast)] == 0;
         }
 
-        private Ride rolled(int cast) {
-            rides[0].startCast(cast);
-            rides[0].rollOut();
-            return rides[0];
-        }
-
         private int priceOf(int cast) {
             return judge.told(COSTS, alps.meadow.dairyCells[dairyOf(cast)], wheelOf(cast), speedOf(cast));
         }
@@ -1806,7 +1801,9 @@ public final class CheesePost {
 
         /** The HOUSE to which a THROW comes uneaten, or NONE. */
         private int comesUneaten(int cast) {
-            Ride ride = rolled(cast);
+            Ride ride = rides[0];
+            ride.startCast(cast);
+            ride.rollOut();
             return ride.why == AT_HOUSE && !ride.isEaten() ? alps.meadow.houseAt[ride.cell] : NONE;
         }
 
@@ -1826,21 +1823,8 @@ public final class CheesePost {
             }
         }
 
-        void deliver() {
-            int sets = 1 << alps.wheels;
-            findCheapest();
-            for (int used = 0; used < sets; used++) {
-                bestFrom[alps.letters][used] = 0;
-            }
-            for (int letter = alps.letters - 1; letter >= 0; letter--) {
-                for (int used = 0; used < sets; used++) {
-                    bestFrom[letter][used] = bestOf(letter, used);
-                }
-            }
-            pickWheels();
-        }
-
-        private void findCheapest() {
+        /** What the cheapest THROW of each WHEEL that comes to each HOUSE uneaten COSTS. */
+        void findCheapest() {
             for (int wheel = 0; wheel < MOST_WHEELS; wheel++) {
                 Arrays.fill(cheapest[wheel], NONE);
             }
@@ -1854,6 +1838,20 @@ public final class CheesePost {
                     }
                 }
             }
+        }
+
+        /** Finds the POST, behind findCheapest(). */
+        void deliver() {
+            int sets = 1 << alps.wheels;
+            for (int used = 0; used < sets; used++) {
+                bestFrom[alps.letters][used] = 0;
+            }
+            for (int letter = alps.letters - 1; letter >= 0; letter--) {
+                for (int used = 0; used < sets; used++) {
+                    bestFrom[letter][used] = bestOf(letter, used);
+                }
+            }
+            pickWheels();
         }
 
         private int bestOf(int letter, int used) {
@@ -1899,7 +1897,9 @@ public final class CheesePost {
         }
 
         boolean breaksAsTraced(int cast) {
-            Ride ride = rolled(cast);
+            Ride ride = rides[0];
+            ride.startCast(cast);
+            ride.rollOut();
             for (int i = 0; i < alps.traces; i++) {
                 if (ride.hasBroken(alps.traceCells[i]) != (alps.traceBroken[i] == 1)) {
                     return false;
@@ -1913,7 +1913,9 @@ public final class CheesePost {
             int was = alps.meadow.fences[cell];
             alps.meadow.fences[cell] = 9;
             judge.renew();
-            Ride ride = rolled(cast);
+            Ride ride = rides[0];
+            ride.startCast(cast);
+            ride.rollOut();
             alps.meadow.fences[cell] = was;
             return ride.why == AT_HOUSE && alps.meadow.houseAt[ride.cell] == house;
         }

@@ -30,6 +30,7 @@ public final class PromisesTest {
         summers();
         images();
         counts();
+        lawsToldAnew();
         System.out.println(wrong == 0 ? "all promises hold" : wrong + " answers are not as due");
         if (wrong != 0) System.exit(1);
     }
@@ -690,6 +691,7 @@ public final class PromisesTest {
         refused(x, "send(0)", x.send(0), -1);
         refused(x, "send(-1)", x.send(-1), -1);
         refused(x, "send(1280)", x.send(1280), -1);
+        refused(x, "send(1281)", x.send(1281), -1);
         refused(x, "send(1279)", x.send(1279), -2);
         refused(x, "send(25)", x.send(25), -2);
         x.wheel(9, 1);
@@ -1148,6 +1150,50 @@ public final class PromisesTest {
         law(x, "wrong");
         x.back(1);
         due("fault() is not gone back to", x.fault(), 0);
+    }
+
+    /** What a LAW told before does not stay, whichever call asks next. */
+    private static void lawsToldAnew() {
+        for (int call = 0; call < 9; call++) {
+            promise = new int[] {22, 25, 26, 30, 31, 32, 35, 36, 42}[call];
+            CheesePost x = new CheesePost();
+            x.wheel(9, 0);
+            x.dairy(3);
+            x.house(35, 0);
+            x.letter(0, 5);
+            x.fence(19, 1);
+            x.trace(19, 1);
+            x.terms(3, 0);
+            law(x, "slows day");
+            x.force(0);
+            due("ahead, call " + call, anew(x, call), 1);
+            x.terms(0, 99);
+            due("slowed more, call " + call, anew(x, call), 0);
+            x.terms(0, 0);
+            law(x, "shuts if y>0 and height<90");
+            x.force(1);
+            due("shut, call " + call, anew(x, call), 0);
+            for (int i = 8; i < 80; i++) x.height(i, 90);
+            x.terms(1, 20);
+            due("no longer shut, call " + call, anew(x, call), 1);
+            x.force(-1);
+            due("no law, call " + call, anew(x, call), 1);
+        }
+    }
+
+    /** Whether the THROW 29 comes to the HOUSE, as a call tells it. */
+    private static int anew(CheesePost x, int call) {
+        switch (call) {
+            case 0: return x.roll(3, 2, 9, 0, 1) == 2 ? 1 : 0;
+            case 1: return x.slips(29, 0, 2) == 35 ? 1 : 0;
+            case 2: return x.ends(29, 0, 35);
+            case 3: return x.aim(0, 0) > 0 ? 1 : 0;
+            case 4: return x.sure(0, 0, 1) == 1 ? 1 : 0;
+            case 5: return x.post(2);
+            case 6: return x.fits(-1) > 0 ? 1 : 0;
+            case 7: return x.wall(29, 0, -1) > 0 ? 1 : 0;
+            default: return x.summer(7, 30) > 0 ? 1 : 0;
+        }
     }
 
     private static void counts() {
