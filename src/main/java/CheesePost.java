@@ -102,8 +102,9 @@ public final class CheesePost {
     private static final int[] OP_NEEDS = {1, 0, 0, 1, 1, 1, 2, 2, 2, 2, 2, 2, 2, 2, 2, 2};
     private static final int CODE_ROOM = 512;
     private static final int STACK_ROOM = 64;
-    private static final long BROKEN = Long.MIN_VALUE;
     private static final long BILLION = 1_000_000_000L;
+    // Beyond what any SUM may make, so that it is found BROKEN wherever it comes up.
+    private static final long BROKEN = -2_000_000_000L;
 
     private static final int RINDS = 5;
     private static final int PRIME = 97;

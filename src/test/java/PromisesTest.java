@@ -29,6 +29,7 @@ public final class PromisesTest {
         replies();
         summers();
         images();
+        imagesKeepAll();
         counts();
         lawsToldAnew();
         System.out.println(wrong == 0 ? "all promises hold" : wrong + " answers are not as due");
@@ -296,6 +297,13 @@ public final class PromisesTest {
         asks(x, "slows 5 if 1=1 and 1/0=1", 0, 1);
         asks(x, "slows 5 if 1=1 or 1=1 and 1/0=1", 0, 5);
         asks(x, "slows 5 if not not not 1=2", 0, 5);
+        asks(x, "slows 5 if not 1=1 and 1=1", 0, 1);
+        asks(x, "slows 5 if not 1=2 and 1=1", 0, 5);
+        asks(x, "slows 5 if not 1=1 or 1=1", 0, 5);
+        asks(x, "slows 5 if not 1=2 or 1/0=1", 0, 5);
+        asks(x, "slows 5 if (1=2 or 1=1) and (1=1 and 2=2 or 1=2)", 0, 5);
+        asks(x, "slows 5 if (1=2 or 1=2 or 3=3) and not (1=1 and 2=2 and 1=2)", 0, 5);
+        for (int i = 0; i < 30; i++) asks(x, "slows 4" + many("+1-1", 20) + " if 1=1 and 2=2", 0, 4);
         asks(x, "slows 5 if 1<2 and 2>1 and not 2<2 and not 2>2", 0, 5);
         asks(x, "slows 7-2-1", 0, 4);
         asks(x, "slows 40/5/2", 0, 4);
@@ -403,6 +411,14 @@ public final class PromisesTest {
         lawFault("eats if " + many("(", 4) + many("[", 4) + "1" + many("]", 4) + "=1" + many(")", 4), -1);
         lawFault("eats if " + many("(", 4) + many("[", 5) + "1" + many("]", 5) + "=1" + many(")", 4), 16);
         lawFault("slows [1]+[[1]+[1]]", -1);
+        lawFault(many("!", 400), 0);
+        lawFault("eats" + many("(", 396), 4);
+        CheesePost twice = new CheesePost();
+        due("law() of brackets left open", law(twice, "slows " + many("[", 8) + "1]]]"), -6);
+        due("fault()", twice.fault(), 18);
+        due("law() of as many closed", law(twice, "slows " + many("[", 8) + "1" + many("]", 8)), 0);
+        due("law() of 51 parts", law(twice, "slows 1" + many("+1", 50)), -6);
+        due("law() of 50 parts", law(twice, "slows 1" + many("+1", 49)), 1);
         lawFault("eats if " + many("not ", 97) + "1=1", -1);
         lawFault("eats if " + many("not ", 98), 400);
         promise = 17;
@@ -558,6 +574,9 @@ public final class PromisesTest {
         law(flat, "slows 0;shuts if not y=5 or x>4");
         flat.force(0);
         rolled(flat, "at most 60", new int[] {44, 3, 1, 0}, 40, 4, 60, 1, 0, 0);
+        due("path 59", flat.path(44, 3, 1, 0, 59), 41);
+        due("path 60", flat.path(44, 3, 1, 0, 60), 40);
+        due("path 61", flat.path(44, 3, 1, 0, 61), -1);
         flat.house(40, 9);
         rolled(flat, "a house", new int[] {44, 3, 1, 0}, 40, 2, 4, 1, 0, 0);
         law(flat, "shuts if speed=5;slows 2 if speed=6;slows 99 if speed=4");
@@ -670,6 +689,12 @@ public final class PromisesTest {
         due("slips(185, 0, 0)", x.slips(185, 0, 0), -1);
         due("slips(-1, 0, 0)", x.slips(-1, 0, 0), -1);
         due("slips(1281, 0, 0)", x.slips(1281, 0, 0), -1);
+        CheesePost full = new CheesePost();
+        for (int i = 0; i < 8; i++) full.wheel(1, 0);
+        for (int i = 0; i < 4; i++) full.dairy(75);
+        due("slips(1279, 0, 0), the last of all", full.slips(1279, 0, 0), 1);
+        due("fits(-1), all", full.fits(-1), 1152);
+        due("fits(1151)", full.fits(1151), 1279);
         // A STEP that it does not make can be slipped in; where no next DIRECTION is, none can.
         CheesePost z = new CheesePost();
         z.wheel(1, 0);
@@ -734,6 +759,21 @@ public final class PromisesTest {
         due("at(27, 1)", x.at(27, 1), 5);
         due("at(50, 1), told since", x.at(50, 1), 0);
         refused(x, "undo()", x.undo(), -3);
+        CheesePost h = new CheesePost();
+        h.dairy(3);
+        h.house(11, 0);
+        h.house(72, 9);
+        for (int i = 0; i < 4; i++) h.wheel(1, i / 2);
+        law(h, "eats if ripe=1");
+        h.force(0);
+        for (int i = 0; i < 4; i++) h.send(160 * i + 25);
+        int[][] counted = {{2, 2}, {2, 1}, {2, 0}, {1, 0}, {0, 0}};
+        for (int i = 0; i < 5; i++) {
+            due("came(0, 0) behind undone " + i, h.came(0, 0), counted[i][0]);
+            due("came(0, 1) behind undone " + i, h.came(0, 1), counted[i][1]);
+            due("count(3) behind undone " + i, h.count(3), 4 - i);
+            h.undo();
+        }
         CheesePost z = new CheesePost();
         z.dairy(3);
         for (int i = 0; i < 8; i++) z.wheel(1, 1);
@@ -840,6 +880,20 @@ public final class PromisesTest {
         x.send(25);
         due("none is left", x.post(0), 0);
         due("none is left", x.post(2), 0);
+        // Eight to eight: the WHEEL that alone breaks the FENCE is left for the one that needs it.
+        CheesePost z = new CheesePost();
+        z.dairy(0);
+        z.dairy(7);
+        z.house(32, 0);
+        z.house(39, 0);
+        z.fence(39, 9);
+        for (int i = 0; i < 8; i++) z.wheel(i == 0 ? 9 : 1, 0);
+        for (int i = 0; i < 8; i++) z.letter(i == 7 ? 1 : 0, 10);
+        due("post(0) of eight", z.post(0), 80);
+        due("post(2) of eight", z.post(2), 8);
+        for (int i = 0; i < 7; i++) due("post(3 and " + i + ")", z.post(3 + i), i + 1);
+        due("post(10)", z.post(10), 0);
+        due("post(11)", z.post(11), -1);
     }
 
     private static void tracing() {
@@ -878,6 +932,21 @@ public final class PromisesTest {
         due("fits(35), not broken", x.fits(35), 39);
         x.send(5);
         due("fits(-1), gone", x.fits(-1), 0);
+        // CELLS far down are told from those far up.
+        CheesePost z = new CheesePost();
+        z.wheel(9, 0);
+        z.dairy(56);
+        z.fence(64, 1);
+        z.trace(64, 1);
+        z.trace(0, 0);
+        due("fits(-1), broken at 64", z.fits(-1), 36);
+        z.fence(72, 1);
+        due("two broken", z.roll(56, 2, 1, 0, 4), 2);
+        z.trace(72, 1);
+        z.trace(8, 0);
+        due("fits(-1), broken at 72", z.fits(-1), 36);
+        z.trace(79, 1);
+        due("fits(-1), not broken at 79", z.fits(-1), 0);
     }
 
     private static void walls() {
@@ -1016,6 +1085,11 @@ public final class PromisesTest {
         answered(x, "summer without wheels", x.summer(5, 30), 0);
         x.wheel(1, 0);
         answered(x, "summer without dairies", x.summer(5, 30), 0);
+        due("how many ended without dairies", endedIn(x), 0);
+        CheesePost bare = new CheesePost();
+        bare.dairy(3);
+        answered(bare, "summer with a dairy alone", bare.summer(5, 30), 0);
+        due("how many ended with a dairy alone", endedIn(bare), 0);
         refused(x, "summer(-1, 1)", x.summer(-1, 1), -1);
         refused(x, "summer(1000001, 1)", x.summer(1000001, 1), -1);
         refused(x, "summer(1, 0)", x.summer(1, 0), -1);
@@ -1042,6 +1116,12 @@ public final class PromisesTest {
         due("summer with a fence again", x.summer(3, 30), arrived);
         due("at(11, 1)", x.at(11, 1), 1);
         drawsByHand();
+    }
+
+    private static int endedIn(CheesePost x) {
+        int ended = 0;
+        for (int end = 0; end < 108; end++) ended += Math.max(0, x.drawn(end));
+        return ended;
     }
 
     /** One THROW of a SUMMER, its DRAWS made here. */
@@ -1129,9 +1209,7 @@ public final class PromisesTest {
         due("at(1, 2)", x.at(1, 2), -1);
         due("count(9), the tape is kept", x.count(9), 5);
         due("a law on it", x.law(), 0);
-        int ended = 0;
-        for (int end = 0; end < 108; end++) ended += Math.max(0, x.drawn(end));
-        due("the summer is kept", ended, 5);
+        due("the summer is kept", endedIn(x), 5);
         refused(x, "undo()", x.undo(), -3);
         answered(x, "back(1)", x.back(1), 0);
         int[] told = {1, 1, 1, 1, 1, 1, 1, 1, 0, 0};
@@ -1194,6 +1272,44 @@ public final class PromisesTest {
             case 7: return x.wall(29, 0, -1) > 0 ? 1 : 0;
             default: return x.summer(7, 30) > 0 ? 1 : 0;
         }
+    }
+
+    /** An IMAGE keeps all of it, whatever is told in its place meanwhile. */
+    private static void imagesKeepAll() {
+        CheesePost x = new CheesePost();
+        promise = 45;
+        x.image(0);
+        x.house(35, 4);
+        x.dairy(3);
+        x.wheel(9, 1);
+        x.wheel(8, 7);
+        x.letter(0, 60);
+        x.trace(19, 1);
+        x.fence(19, 2);
+        x.reply(0, 6);
+        law(x, "eats if ripe=7;costs 11");
+        x.force(0);
+        x.send(160 + 25);
+        x.fence(19, 2);
+        x.image(1);
+        x.back(0);
+        x.house(76, 9);
+        x.house(77, 9);
+        x.dairy(79);
+        x.wheel(1, 8);
+        x.wheel(1, 8);
+        x.letter(1, 3);
+        x.trace(5, 0);
+        x.reply(0, 9);
+        x.reply(1, 9);
+        law(x, "slows 99");
+        x.force(0);
+        x.back(1);
+        int[] want = {35, 4, 0, -1, 0, 9, 1, 8, 7, 0, 1, 0, 1, 60, 11, 36, 1, 8, 1};
+        int[] got = {x.roll(3, 2, 5, 0, 0), x.at(35, 3), x.at(35, 2), x.at(76, 3), x.at(3, 4), x.of(0, 0), x.of(0, 1),
+            x.of(1, 0), x.of(1, 1), x.of(0, 2), x.of(1, 2), x.came(0, 0), x.came(0, 1), x.post(0), x.aim(0, 2), x.fits(-1),
+            x.fits(0), x.trips(0, 1), x.trips(0, 2)};
+        for (int i = 0; i < want.length; i++) due("what image 1 keeps, " + i, got[i], want[i]);
     }
 
     private static void counts() {
