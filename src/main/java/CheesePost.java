@@ -130,6 +130,8 @@ public final class CheesePost {
     private int drawing = 0;
 
     public CheesePost() {
+        // Ahead of any SUMMER there is none to tell of.
+        Arrays.fill(summerEnds, NONE);
     }
 
     public int height(int cell, int height) {

@@ -101,7 +101,7 @@ final class CheesePostModel {
     int stopped = -1;
     int status = 0;
     Map<Integer, Integer> refusals = new HashMap<>();
-    Map<Integer, Integer> summerEnds = new HashMap<>();
+    Map<Integer, Integer> summerEnds = null;
     long drawing;
 
     CheesePostModel() {
@@ -988,7 +988,7 @@ final class CheesePostModel {
 
     public int summer(int seed, int n) {
         if (!in(seed, 0, 1000000) || !in(n, 1, 30)) return no(-1);
-        summerEnds.clear();
+        summerEnds = new HashMap<>();
         drawing = seed;
         int houses = 0;
         Set<Integer> down = new HashSet<>();
@@ -1007,7 +1007,8 @@ final class CheesePostModel {
     }
 
     public int drawn(int end) {
-        return in(end, 0, 79) || in(end, 100, 107) ? summerEnds.getOrDefault(end, 0) : -1;
+        if (summerEnds == null || !in(end, 0, 79) && !in(end, 100, 107)) return -1;
+        return summerEnds.getOrDefault(end, 0);
     }
 
     // ---- images

@@ -1075,8 +1075,18 @@ public final class PromisesTest {
     private static void summers() {
         CheesePost x = new CheesePost();
         promise = 43;
-        due("drawn(0) ahead of any", x.drawn(0), 0);
+        for (int end = -1; end <= 108; end++) due("drawn(" + end + ") ahead of any", x.drawn(end), -1);
+        x.summer(0, 31);
+        x.summer(-1, 1);
+        due("drawn(0), one refused is none", x.drawn(0), -1);
+        x.image(0);
+        x.summer(0, 1);
+        due("drawn(0), one without throws", x.drawn(0), 0);
+        due("drawn(79)", x.drawn(79), 0);
+        due("drawn(100)", x.drawn(100), 0);
         due("drawn(107)", x.drawn(107), 0);
+        x.back(0);
+        due("drawn(0), an image ahead of any does not undo it", x.drawn(0), 0);
         due("drawn(80)", x.drawn(80), -1);
         due("drawn(99)", x.drawn(99), -1);
         due("drawn(108)", x.drawn(108), -1);
