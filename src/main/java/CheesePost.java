@@ -43,6 +43,7 @@ public final class CheesePost {
     private static final int AT_HOUSE = 2;
     private static final int IN_VALLEY = 3;
     private static final int TIRED = 4;
+    private static final int WALL = 9;
     private static final int FASTEST = 99;
     private static final int SPEEDS = 100;
 
@@ -518,6 +519,7 @@ public final class CheesePost {
         if (!casts.canBe(cast) || !isHouse(house) || i < NONE) {
             return NONE;
         }
+        judge.renew();
         int found = 0;
         for (int cell = 0; cell < CELLS; cell++) {
             if (cell != alps.meadow.dairyCells[dairyOf(cast)] && casts.walledEndsAt(cast, cell, house)) {
@@ -1402,6 +1404,8 @@ public final class CheesePost {
         int why = STAYS;
         int first = NONE;
         int second = NONE;
+        // A WALL is not told, so it stands here and not in the Meadow, where a LAW's "fence" is asked.
+        int walled = NONE;
         private int direction = 0;
         private int wheel = 0;
         private long brokenBelow64 = 0;
@@ -1490,7 +1494,7 @@ public final class CheesePost {
                 why = STAYS;
                 return;
             }
-            int strong = there < CELLS && !hasBroken(there) ? alps.meadow.fences[there] : 0;
+            int strong = strengthAt(there);
             if (faster * alps.sizes[wheel] < 10 * strong) {
                 why = FENCED;
                 return;
@@ -1514,6 +1518,14 @@ public final class CheesePost {
 
         private int fallTo(int there) {
             return alps.meadow.heights[cell] - alps.meadow.heightOf(there);
+        }
+
+        /** How strong the FENCE is that it must break to come there. */
+        private int strengthAt(int there) {
+            if (there >= CELLS || hasBroken(there)) {
+                return 0;
+            }
+            return there == walled ? WALL : alps.meadow.fences[there];
         }
 
         private void breakAt(int at) {
@@ -1913,13 +1925,11 @@ public final class CheesePost {
 
         /** Whether a THROW ends at a HOUSE, if a WALL stands on a CELL. */
         boolean walledEndsAt(int cast, int cell, int house) {
-            int was = alps.meadow.fences[cell];
-            alps.meadow.fences[cell] = 9;
-            judge.renew();
             Ride ride = rides[0];
             ride.startCast(cast);
+            ride.walled = cell;
             ride.rollOut();
-            alps.meadow.fences[cell] = was;
+            ride.walled = NONE;
             return ride.why == AT_HOUSE && alps.meadow.houseAt[ride.cell] == house;
         }
     }

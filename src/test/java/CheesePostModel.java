@@ -103,6 +103,7 @@ final class CheesePostModel {
     Map<Integer, Integer> refusals = new HashMap<>();
     Map<Integer, Integer> summerEnds = null;
     long drawing;
+    int walled = -1; // the cell of a wall that is tried: in a wheel's way, but not told
 
     CheesePostModel() {
         for (int y = 0; y < 10; y++) for (int x = 0; x < 8; x++) w.heights[8 * y + x] = 90 - 10 * y;
@@ -623,14 +624,15 @@ final class CheesePostModel {
                 r.why = 0;
                 break;
             }
-            if (there < 100 && w.fences[there] > 0 && !down.contains(there)) {
-                if (n * size < 10 * w.fences[there]) {
+            int strong = there == walled ? 9 : there < 100 ? w.fences[there] : 0;
+            if (strong > 0 && !down.contains(there)) {
+                if (n * size < 10 * strong) {
                     r.why = 1;
                     break;
                 }
                 down.add(there);
                 r.broke.add(there);
-                n = Math.max(1, n - w.fences[there]);
+                n = Math.max(1, n - strong);
             }
             c = there;
             d = way[0];
@@ -879,12 +881,10 @@ final class CheesePostModel {
         List<Integer> found = new ArrayList<>();
         for (int c = 0; c < 80; c++) {
             if (c == w.dairies.get(cast % 160 / 40)) continue;
-            World real = w;
-            w = real.copy();
-            w.fences[c] = 9;
+            walled = c;
             Roll r = cast(cast, k -> false);
+            walled = -1;
             if (r.why == 2 && w.houseAt(r.end) == house) found.add(c);
-            w = real;
         }
         return i == -1 ? found.size() : in(i, 0, found.size() - 1) ? found.get(i) : -1;
     }

@@ -970,15 +970,58 @@ public final class PromisesTest {
         due("wall(20, 0, -1)", x.wall(20, 0, -1), -1);
         due("wall(185, 0, -1)", x.wall(185, 0, -1), -1);
         due("at(11, 1)", x.at(11, 1), 0);
-        // A LAW that shuts where a FENCE is lets a WALL turn it.
+        wallsUnderLaws(x);
+        wallsThatAreBroken();
+        x.send(25);
+        due("wall of one gone", x.wall(25, 0, -1), -1);
+    }
+
+    /** A WALL is not told: a LAW's "fence" stays what it is without it. */
+    private static void wallsUnderLaws(CheesePost x) {
         law(x, "shuts if fence=9");
         x.force(0);
         x.height(4, 80);
-        due("walls that turn it", x.wall(25, 1, -1), 2);
-        due("a wall that turns it to the right", x.wall(25, 1, 0), 11);
-        due("a wall on the other house", x.wall(25, 1, 1), 19);
-        x.send(25);
-        due("wall of one gone", x.wall(25, 0, -1), -1);
+        due("no wall is shut by its being there", x.wall(25, 1, -1), 0);
+        due("walls in the way alone matter", x.wall(25, 0, -1), 77);
+        x.fence(11, 9);
+        due("11 is shut by what is told there, a wall in its place or not", x.wall(25, 1, -1), 77);
+        due("a wall on 11", x.wall(25, 1, 9), 11);
+        x.fence(11, 4);
+        law(x, "shuts if fence=4");
+        x.force(1);
+        due("a wall on 11 in place of a fence that shuts", x.wall(25, 1, 9), 11);
+        due("as many as ahead", x.wall(25, 1, -1), 77);
+        due("at(11, 1) behind it", x.at(11, 1), 4);
+        due("count(7) behind it", x.count(7), 1);
+        x.fence(11, 0);
+        x.force(-1);
+    }
+
+    /** A WHEEL that is big enough breaks a WALL, and is slower behind it. */
+    private static void wallsThatAreBroken() {
+        CheesePost x = new CheesePost();
+        x.wheel(9, 0);
+        x.dairy(3);
+        x.house(19, 0);
+        x.house(12, 0);
+        due("11 and 19 are broken through", x.wall(25, 0, -1), 79);
+        law(x, "slows 9 if fence=9");
+        x.force(0);
+        x.height(19, 77);
+        due("not slowed by what is not told", x.wall(25, 0, 10), 11);
+        due("nor kept from breaking one on 19", x.wall(25, 0, -1), 79);
+        x.fence(11, 9);
+        due("slowed by what is told, a wall in its place too", x.wall(25, 0, -1), 0);
+        x.fence(11, 0);
+        x.height(19, 70);
+        law(x, "shuts if speed<6 and y=2");
+        x.force(1);
+        due("a wall turns it by its SPEED", x.wall(25, 1, -1), 1);
+        due("a wall on 11 turns it", x.wall(25, 1, 0), 11);
+        due("the others do not", x.wall(25, 0, -1), 78);
+        law(x, "eats if fence=9");
+        x.force(2);
+        due("eaten or not, it ends there", x.wall(25, 0, -1), 79);
     }
 
     private static void rinds() {
