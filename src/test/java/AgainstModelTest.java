@@ -305,8 +305,9 @@ public final class AgainstModelTest {
             if (i > 0) s.append(blank()).append(";").append(blank());
             int kind = below(4);
             s.append(new String[] {"slows ", "costs ", "shuts", "eats"}[kind]);
-            if (kind < 2) s.append(n > 8 ? "1" : sum(2, LAW_WORDS));
-            if (kind == 2 && below(3) > 0) s.append(" if x = " + below(8) + " and y > " + below(9));
+            if (kind < 2) s.append(n > 8 ? "1" : below(4) == 0 ? "fence * " + below(9) : sum(2, LAW_WORDS));
+            if (kind == 2 && below(3) == 0) s.append(" if fence > " + below(9));
+            else if (kind == 2 && below(3) > 0) s.append(" if x = " + below(8) + " and y > " + below(9));
             else if (kind == 3 && below(2) == 0) s.append(" if hunger > " + below(9));
             else if (n <= 8 && below(3) > 0 || kind == 2) s.append(" if ").append(test(3, LAW_WORDS));
         }
@@ -388,6 +389,9 @@ public final class AgainstModelTest {
 
     private boolean walls() throws Exception {
         int cast = cast();
+        for (int i = 0; i < houses; i++) {
+            if (!call("wall", cast, i, -1)) return false;
+        }
         int house = near(0, houses - 1);
         return call("wall", cast, house, -1) && call("wall", cast, house, near(-1, 70));
     }
