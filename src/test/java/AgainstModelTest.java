@@ -6,6 +6,8 @@ import java.util.Random;
 /** Runs of calls by fixed seeds, each answer held against the plain model's. */
 public final class AgainstModelTest {
     private static final Method[] ON_PROGRAM = methods();
+    // No more than 512 calls of one object are promised; a step takes some 60 at most, the counts at the end 21.
+    private static final int LAST_STEP = 430;
     private final Random random;
     private final CheesePost program = new CheesePost();
     private final CheesePostModel model = new CheesePostModel();
@@ -15,6 +17,7 @@ public final class AgainstModelTest {
     private int houses;
     private int dairies;
     private int wheels;
+    private int calls = 0;
 
     private AgainstModelTest(long seed) {
         // Seeds that follow one another begin alike, so they are spread first.
@@ -26,7 +29,7 @@ public final class AgainstModelTest {
 
     public static void main(String[] args) throws Exception {
         long from = args.length > 0 ? Long.parseLong(args[0]) : 1;
-        long to = args.length > 1 ? Long.parseLong(args[1]) : 150;
+        long to = args.length > 1 ? Long.parseLong(args[1]) : 300;
         for (long seed = from; seed <= to; seed++) {
             AgainstModelTest test = new AgainstModelTest(seed);
             if (!test.run()) {
@@ -58,10 +61,17 @@ public final class AgainstModelTest {
 
     private boolean call(String name, Integer... args) throws Exception {
         Method m = named(name);
+        calls++;
         int got = (Integer) m.invoke(program, (Object[]) args);
         int want = (Integer) CheesePostModel.class.getMethod(name, m.getParameterTypes()).invoke(model, (Object[]) args);
         log.add(name + java.util.Arrays.toString(args) + " answered " + got + (got == want ? "" : ", due is " + want));
         return got == want;
+    }
+
+    /** What a run asks of the program alone, to know what it can call next. */
+    private int counted(int what) {
+        calls++;
+        return program.count(what);
     }
 
     private int below(int n) {
@@ -86,8 +96,8 @@ public final class AgainstModelTest {
         for (int i = 0; i < (gentle ? 2 : 4); i++) {
             if (!setUp()) return false;
         }
-        int calls = 60 + below(200);
-        for (int i = 0; i < calls; i++) {
+        int steps = 60 + below(200);
+        for (int i = 0; i < steps && calls < LAST_STEP; i++) {
             if (!(below(6) == 0 ? wild() : step())) return false;
         }
         for (int i = 0; i < 21; i++) {
@@ -122,23 +132,23 @@ public final class AgainstModelTest {
         if (what.equals("house")) {
             int cell = gentle && dairies > 0 ? model.w.dairies.get(below(dairies)) + 8 * below(6) + below(3) - 1 : near(0, 79);
             boolean ok = call("house", cell, near(0, 9));
-            houses = program.count(0);
+            houses = counted(0);
             return ok;
         }
         if (what.equals("dairy")) {
             if (dairies >= (small ? 2 : 9)) return true;
             boolean ok = call("dairy", below(2) == 0 ? near(0, 15) : near(0, 79));
-            dairies = program.count(1);
+            dairies = counted(1);
             return ok;
         }
         if (wheels >= most) return true;
         boolean ok = call("wheel", near(1, 9), near(0, 9));
-        wheels = program.count(2);
+        wheels = counted(2);
         return ok;
     }
 
     private boolean step() throws Exception {
-        if (program.count(3) * 2 > wheels && below(2) == 0) return call("undo");
+        if (counted(3) * 2 > wheels && below(2) == 0) return call("undo");
         switch (below(40)) {
             case 0: return gentle || call("height", near(0, 79), near(0, 99));
             case 1: return call("fence", near(0, 79), near(0, 9));
@@ -159,7 +169,7 @@ public final class AgainstModelTest {
             case 13:
             case 14:
             case 15: return orderText();
-            case 16: return call("force", near(-1, program.count(5) - 1));
+            case 16: return call("force", near(-1, counted(5) - 1));
             case 17: return asks();
             case 18:
             case 19: return rolls();
@@ -196,22 +206,23 @@ public final class AgainstModelTest {
         Integer[] args = new Integer[m.getParameterCount()];
         for (int i = 0; i < args.length; i++) args[i] = POOL[below(3) == 0 ? below(POOL.length) : 3 + below(12)];
         boolean ok = call(m.getName(), args);
-        houses = program.count(0);
-        dairies = program.count(1);
-        wheels = program.count(2);
+        houses = counted(0);
+        dairies = counted(1);
+        wheels = counted(2);
         return ok;
     }
 
     private boolean back() throws Exception {
         boolean ok = call("back", near(0, 1));
-        houses = program.count(0);
-        dairies = program.count(1);
-        wheels = program.count(2);
+        houses = counted(0);
+        dairies = counted(1);
+        wheels = counted(2);
         return ok && call("status");
     }
 
     private boolean traceBroken() throws Exception {
         int cast = cast();
+        calls += 2;
         if (program.slips(cast, 0, 0) < 0 || below(2) == 0) return true;
         int cell = program.broken(model.w.dairies.get(cast % 160 / 40), cast % 40 / 10, cast % 10, cast / 160, 0);
         return cell < 0 || call("trace", cell, 1);
@@ -232,7 +243,7 @@ public final class AgainstModelTest {
     }
 
     private boolean put(String text) throws Exception {
-        int before = program.count(9);
+        int before = counted(9);
         for (int i = 0; i < text.length(); i += 20) {
             Integer[] five = new Integer[5];
             for (int k = 0; k < 5; k++) {
@@ -314,8 +325,8 @@ public final class AgainstModelTest {
         String text = spoiled(s.toString());
         if (text.length() > 380) text = text.substring(0, 380);
         if (!call("end", 0) || !put(text)) return false;
-        int before = program.count(5);
-        return call("law") && call("fault") && call("status") && (program.count(5) == before || call("force", before));
+        int before = counted(5);
+        return call("law") && call("fault") && call("status") && (counted(5) == before || call("force", before));
     }
 
     private boolean orderText() throws Exception {
@@ -369,6 +380,7 @@ public final class AgainstModelTest {
         for (int what = 0; what < 4; what++) {
             if (!call("slips", cast, k, what)) return false;
         }
+        calls++;
         int end = program.slips(cast, k, 2);
         return call("ends", cast, k, end) && call("ends", cast, k, below(2) == 0 ? near(0, 79) : near(100, 107));
     }
@@ -379,7 +391,7 @@ public final class AgainstModelTest {
     }
 
     private boolean posts() throws Exception {
-        int letters = program.count(4);
+        int letters = counted(4);
         if (letters > 6 && below(10) > 0) return true;
         for (int what = 0; what < 3 + letters; what++) {
             if (!call("post", what)) return false;
@@ -402,6 +414,7 @@ public final class AgainstModelTest {
         int b = near(0, 96);
         if (!call("share", s, a, b, near(1, 5))) return false;
         Integer[] on = new Integer[5];
+        calls += 5;
         for (int k = 1; k <= 5; k++) on[k - 1] = program.share(s, a, b, k);
         int lies = below(4);
         for (int i = 0; i < lies; i++) on[below(5)] = near(0, 96);

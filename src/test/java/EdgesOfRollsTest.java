@@ -12,11 +12,14 @@ public final class EdgesOfRollsTest {
         askedOfRolls();
         slipping();
         rowsOfSlips();
+        rowsOfSixtySteps();
+        rowsOverFences();
         endsOfRows();
         sending();
         undoing();
         counted();
         aims();
+        aimsAsRolled();
         surest();
         posts();
         traces();
@@ -142,6 +145,20 @@ public final class EdgesOfRollsTest {
         }
         Edges.Scene slowed = flat("shuts if not (y=4 and x>3 and x<6);slows 7 if x=4 and speed=9;slows 99 if x=5;slows 99 if speed<9");
         rolled(slowed, "as it is SLOWED here, with the old SPEED", at(36, 1, 9, 0), 37, 0, 1, 2, 0, 0);
+        // SPEED 0 at 37 and SPEED 99 at 36 beside it are each asked for themselves.
+        rolled(x -> {
+            flat("slows 0;slows 50 if x=4;shuts if not y=4 or x=3 and speed=99").set(x);
+            x.height(37, 99);
+            x.height(36, 0);
+            x.height(35, 1);
+        }, "SPEED 0, then 99", at(37, 3, 0, 0), 36, 0, 1, 99);
+        rolled(x -> {
+            flat("slows 0;slows 50 if x=4;shuts if not y=4").set(x);
+            x.height(37, 99);
+            x.height(36, 0);
+            x.height(35, 1);
+            x.house(35, 0);
+        }, "SPEED 0, then 99", at(37, 3, 0, 0), 35, 2, 2, 99 - 50 - 1);
         // 99 at most is asked behind what it is SLOWED.
         rolled(x -> {
             x.wheel(1, 0);
@@ -380,6 +397,28 @@ public final class EdgesOfRollsTest {
             x.height(44, 49);
             x.height(35, 49);
         }, "down and left are alike", 2, 1, 44, 1, 35, 1);
+        // Lower and lower, higher and higher, as the DIRECTIONS go: downhill and up.
+        int[][] hills = {{40, 45, 47, 48}, {48, 47, 45, 40}, {51, 52, 53, 54}, {54, 53, 52, 51}, {40, 47, 45, 48}, {48, 40, 47, 45},
+            {53, 51, 54, 52}, {45, 45, 45, 40}, {45, 40, 45, 45}, {55, 50, 50, 45}};
+        int[][] taken = {{28, 37}, {35, 44}, {28, 37}, {35, 44}, {28, 44}, {37, 35}, {37, 35}, {35, 28}, {37, 28}, {35, 37}};
+        int[] cells = {28, 37, 44, 35};
+        for (int i = 0; i < hills.length; i++) {
+            int[] hill = hills[i];
+            rows(x -> {
+                around("").set(x);
+                for (int d = 0; d < 4; d++) x.height(cells[d], hill[d]);
+            }, "hill " + i, 9, 1, taken[i][0], 1, taken[i][1], 1);
+        }
+        // Where all is SHUT to it in the second STEP, none can be slipped to, though it could in the first.
+        rows(from(36, flat("slows 1;shuts if speed=7")), "all SHUT behind a STEP", 8, 1, 28, 1, 37, 1);
+        rows(from(36, flat("slows 1;shuts if speed=7")), "all SHUT behind a STEP", 8, 2, 28, 1, 37, 1);
+        // Another WHEEL slips as it is, not as the first of them.
+        rows(x -> {
+            around(";slows 99 if size=1").set(x);
+            x.wheel(9, 1);
+            x.height(36, 60);
+            x.fence(37, 9);
+        }, "a WHEEL that breaks what the first does not", 169, 1, 28, 1, 37, 1);
         // By a SLIP uphill it stays: a ROW as well.
         rows(x -> {
             around(";shuts if not y=4").set(x);
@@ -452,6 +491,63 @@ public final class EdgesOfRollsTest {
         }, "slips() of one GONE", x -> x.slips(25, 0, 0));
     }
 
+    /** To and fro among three CELLS with no end but behind 60 STEPS; in each from the midst one it can slip. */
+    private static void rowsOfSixtySteps() {
+        EDGES.says("behind 60 STEPS (why 4), with SLIPS too");
+        Edges.Scene three = from(36, flat("slows 0;shuts if not (y=4 and x>2 and x<6)"));
+        rows(three, "k 0", 19, 0, 36, 1);
+        rows(three, "k 1", 19, 1, 36, 1 + 30);
+        rows(three, "k 2", 19, 2, 36, 1 + 30 + 30 * 29 / 2);
+        // From the left of them each second STEP can be slipped in, the last too.
+        Edges.Scene left = from(35, flat("slows 0;shuts if not (y=4 and x>2 and x<6)"));
+        rows(left, "k 1, from the left", 19, 1, 37, 1 + 29, 35, 1);
+        rows(left, "k 2, from the left", 19, 2, 37, 1 + 29 + 29 * 28 / 2, 35, 1 + 29);
+    }
+
+    /** Down to the midst of three CELLS, where a FENCE of 9 at the right can be broken once, and not again. */
+    private static void rowsOverFences() {
+        EDGES.says("A FENCE there that it did not break yet, with SLIPS too");
+        for (int y : new int[] {1, 4, 7, 8}) {
+            Edges.Scene fenced = x -> {
+                Edges.flat(x, 50);
+                x.wheel(9, 0);
+                x.terms(1, 0);
+                x.dairy(8 * y - 4);
+                x.height(8 * y - 4, 59);
+                x.fence(8 * y + 5, 9);
+                Edges.under(x, "slows 0;shuts if not (y=" + y + " and x>2 and x<6)");
+            };
+            int left = 8 * y + 3;
+            int right = 8 * y + 5;
+            rows(fenced, "a FENCE on " + right, 29, 0, right, 1);
+            rows(fenced, "a FENCE on " + right, 29, 1, right, 1 + 29, left, 1);
+            rows(fenced, "a FENCE on " + right, 29, 2, right, 1 + 29 + 29 * 28 / 2, left, 1 + 29);
+            // The first SLIP that can be is behind the FENCE: what was broken ahead of it stays so.
+            rows(x -> {
+                fenced.set(x);
+                Edges.under(x, "slows 0;shuts if not (y=" + y + " and x>2 and x<6);shuts if x=3 and speed=18");
+            }, "a SLIP behind a FENCE on " + right, 29, 1, right, 1 + 28, left, 1);
+            // What one THROW broke by a SLIP is there again for the next, which is too slow for it.
+            Edges.Scene slower = x -> {
+                Edges.flat(x, 50);
+                x.wheel(9, 0);
+                x.terms(1, 0);
+                x.dairy(left + 1);
+                x.height(left + 1, 51);
+                x.fence(left, 9);
+                x.house(left, 0);
+                x.house(right, 0);
+                Edges.under(x, "slows 0;shuts if not y=" + y);
+            };
+            rows(slower, "fast enough", 9, 1, right, 1, left, 1);
+            rows(slower, "too slow", 8, 1, right, 1, left + 1, 1);
+            rows(x -> {
+                slower.set(x);
+                EDGES.due("slips(9, 1, 0)", x.slips(9, 1, 0), 2);
+            }, "too slow, behind one that was fast enough", 8, 1, right, 1, left + 1, 1);
+        }
+    }
+
     private static void endsOfRows() {
         EDGES.says("An END is a CELL, or the VALLEY's number. NONE (no such THROW, END).");
         for (int end : new int[] {-1, 80, 99, 108, 200, Integer.MIN_VALUE, Integer.MAX_VALUE}) {
@@ -467,9 +563,23 @@ public final class EdgesOfRollsTest {
                 x.dairy(end - 28);
             }, "ends(25, 0, " + end + ")", x -> x.ends(25, 0, end), 1);
         }
-        for (int cell : new int[] {0, 79}) {
-            EDGES.asked(from(cell, flat("slows 99")), "ends(2, 0, " + cell + ")", x -> x.ends(2, 0, cell), 1);
+        for (int cell : new int[] {0, 1, 78, 79}) {
+            Edges.Scene stays = from(cell, flat("slows 99"));
+            EDGES.asked(stays, "ends(2, 0, " + cell + ")", x -> x.ends(2, 0, cell), 1);
+            EDGES.asked(stays, "slips(2, 0, 1) at " + cell, x -> x.slips(2, 0, 1), 1);
+            EDGES.asked(stays, "slips(2, 0, 2) at " + cell, x -> x.slips(2, 0, 2), cell);
+            EDGES.asked(stays, "slips(2, 0, 3) at " + cell, x -> x.slips(2, 0, 3), 1);
         }
+        for (int end : new int[] {100, 101, 106, 107}) {
+            EDGES.asked(from(end - 28, x -> x.wheel(1, 1)), "slips(25, 0, 2) to " + end, x -> x.slips(25, 0, 2), end);
+            EDGES.asked(from(end - 28, x -> x.wheel(1, 1)), "slips(25, 0, 1) to " + end, x -> x.slips(25, 0, 1), 1);
+        }
+        // Of two alike the lowest, CELL 0 too.
+        EDGES.asked(from(8, x -> {
+            flat("slows 1;shuts if x>1 or y>1").set(x);
+            x.house(0, 0);
+            x.house(9, 0);
+        }), "the lowest of CELLS 0 and 9", x -> x.slips(2, 1, 2), 0);
         EDGES.none(x -> {
             Edges.PAIR.set(x);
             x.send(25);
@@ -507,6 +617,20 @@ public final class EdgesOfRollsTest {
         };
         EDGES.asked(again, "came(0, 0) of the next", x -> x.came(0, 0), 1);
         EDGES.asked(again, "came(0, 1) of the next", x -> x.came(0, 1), 1);
+        // Not so one at an edge of the MEADOW, nor one told again where an earlier one was broken.
+        Edges.Scene corners = x -> {
+            Edges.PAIR.set(x);
+            x.wheel(9, 0);
+            x.dairy(5);
+            for (int cell : new int[] {0, 7, 72, 79}) x.fence(cell, 3);
+            x.fence(11, 1);
+            x.send(25);
+            x.fence(11, 1);
+            x.send(160 + 65);
+        };
+        for (int cell : new int[] {0, 7, 72, 79}) EDGES.asked(corners, "at(" + cell + ", 1)", x -> x.at(cell, 1), 3);
+        EDGES.asked(corners, "at(11, 1), told again", x -> x.at(11, 1), 1);
+        EDGES.asked(corners, "count(7)", x -> x.count(7), 5);
         // A FENCE that stops it stays.
         EDGES.asked(x -> {
             Edges.PAIR.set(x);
@@ -679,6 +803,54 @@ public final class EdgesOfRollsTest {
             many.set(x);
             Edges.under(x, "costs 5;costs 0-7 if size=5;costs 0 if size=4");
         }, "aim(0, 1), 0 at least", x -> x.aim(0, 1), 480 + 1);
+    }
+
+    /** What AIMS count is what each THROW does when it is rolled alone. */
+    private static void aimsAsRolled() {
+        EDGES.says("AIMS at a HOUSE: THROWS that end at it (why 2) and are not EATEN");
+        String[] laws = {"slows 1;slows 99 if ripe=0 and x=4", "slows 2;shuts if ripe=0 and x=4", "slows speed%7+x;shuts if speed*x%5=y%3 and ripe>0",
+            "eats if speed%3=ripe;slows size", "shuts if speed=9+ripe;slows x+y", "shuts if speed%4=0 and not x=3;eats if speed>30+ripe"};
+        for (String law : laws) {
+            Edges.Scene scene = x -> {
+                for (int i = 0; i < 3; i++) x.wheel(2 + i, i);
+                x.dairy(4);
+                x.dairy(3);
+                x.dairy(11);
+                x.house(35, 0);
+                Edges.under(x, law);
+            };
+            int all = 0;
+            int first = -1;
+            for (int wheel = 0; wheel < 3; wheel++) {
+                CheesePost x = Edges.made(scene);
+                for (int cast = 160 * wheel; cast < 160 * wheel + 120; cast++) {
+                    int cell = new int[] {4, 3, 11}[cast % 160 / 40];
+                    if (cast % 10 == 0 || x.roll(cell, cast / 10 % 4, cast % 10, wheel, 0) != 35) continue;
+                    if (x.roll(cell, cast / 10 % 4, cast % 10, wheel, 5) == 1) continue;
+                    all++;
+                    if (first < 0) first = cast;
+                }
+            }
+            EDGES.asked(scene, "aim(0, 0) under " + law, x -> x.aim(0, 0), all);
+            int due = first;
+            EDGES.asked(scene, "aim(0, 1) under " + law, x -> x.aim(0, 1), due);
+            EDGES.asked(scene, "sure(0, 0, 1) under " + law, x -> x.sure(0, 0, 1), 1);
+        }
+        // What one HOUSE's AIMS were does not tell of another's.
+        Edges.Scene two = x -> {
+            Edges.PAIR.set(x);
+            x.house(0, 0);
+            x.aim(0, 1);
+        };
+        int[] none = {0, -1, -1, -1};
+        for (int i = 0; i < 4; i++) {
+            int what = i;
+            EDGES.asksAlone(two, "aim(1, " + i + ") behind aim(0, 1)", x -> x.aim(1, what), none[i]);
+        }
+        EDGES.none(x -> {
+            two.set(x);
+            x.sure(0, 1, 0);
+        }, "sure(1, 1, 0) behind sure(0, 1, 0)", x -> x.sure(1, 1, 0));
     }
 
     private static void surest() {
@@ -966,6 +1138,33 @@ public final class EdgesOfRollsTest {
         EDGES.asked(replaced, "walls with a FENCE of 8 on the way", x -> x.wall(19, 0, -1), 78);
         EDGES.asked(replaced, "the wall in place of it", x -> x.wall(19, 0, 36), 37);
         EDGES.asksAlone(replaced, "the next wall", x -> x.wall(19, 0, 37), 39);
+        // It is on trial alone: behind it none stands, at the first CELL or the last.
+        Edges.Scene ends = x -> {
+            x.wheel(1, 0);
+            x.dairy(1);
+            x.dairy(7);
+            x.height(0, 50);
+            x.house(0, 0);
+            x.house(79, 0);
+            x.house(36, 0);
+        };
+        for (int house = 0; house < 3; house++) {
+            int to = house;
+            int[] walls = {78, 0, 0};
+            EDGES.asksAlone(ends, "wall(35, " + house + ", NONE)", x -> x.wall(35, to, -1), walls[house]);
+            EDGES.asked(ends, "aim(" + house + ", 0) behind all walls", x -> {
+                x.wall(35, 0, -1);
+                return x.aim(to, 0);
+            }, Edges.made(ends).aim(house, 0));
+        }
+        EDGES.asked(ends, "slips(65, 0, 2) behind all walls", x -> {
+            x.wall(65, 0, -1);
+            return x.slips(65, 0, 2);
+        }, 79);
+        EDGES.asked(ends, "slips(35, 0, 2) behind all walls", x -> {
+            x.wall(65, 0, -1);
+            return x.slips(35, 0, 2);
+        }, 0);
         // Another DAIRY's CELL can have one; of the DAIRY it is thrown from none is told.
         EDGES.asked(x -> {
             turned.set(x);

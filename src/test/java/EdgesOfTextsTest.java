@@ -850,6 +850,18 @@ public final class EdgesOfTextsTest {
         EDGES.says("to wait: the next DAY");
         ran(x -> x.terms(0, 98), "wait", 1);
         ranTo(x -> x.terms(0, 98), "wait", "count(16)", x -> x.count(16), 99);
+        EDGES.says("ORDERS are TEXTS: each by itself, whatever was told ahead of it");
+        Edges.Scene told = x -> {
+            Edges.PAIR.set(x);
+            EDGES.due("send", Edges.orders(x, "wait if 1=2;send 0 from 0 toward 2 with 5 times 1 if wheels>0;wait times 3"), 4);
+            EDGES.due("mend", Edges.orders(x, "mend 1 by 1"), 1);
+            EDGES.due("wait", Edges.orders(x, "wait"), 1);
+            EDGES.due("wait twice", Edges.orders(x, "wait;wait"), 2);
+            EDGES.due("a LAW", Edges.law(x, "slows 1+1;costs 5 if 1=2"), 0);
+        };
+        ran(told, "mend 2 by 2;mend 3 by 3;wait", 3);
+        ranTo(told, "mend 2 by 2;mend 3 by 3;wait", "count(16)", x -> x.count(16), 7);
+        ranTo(told, "mend 2 by 2;mend 3 by 3;wait", "count(7)", x -> x.count(7), 3);
         EDGES.says("they are run: how many were run");
         ran(Edges.BARE, "wait if 1=2", 0);
         ran(Edges.PAIR, "mend 1 by 1;wait times 2;send 0 from 0 toward 2 with 5", 4);

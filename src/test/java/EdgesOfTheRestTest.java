@@ -476,6 +476,28 @@ public final class EdgesOfTheRestTest {
                 EDGES.due("drawn(100)", x.drawn(100), due[100]);
             }
         }
+        // Where none is open to it behind its first STEP (it is too fast), it stays, also if it was to slip.
+        for (int seed = 0; seed < 40; seed++) {
+            int[] due = new int[2];
+            Draws draws = new Draws(seed);
+            for (int i = 0; i < 10; i++) {
+                for (int m : new int[] {1, 1, 4, 9}) draws.of(m);
+                due[draws.of(10) < 5 ? 1 : 0]++;
+                draws.of(10);
+            }
+            CheesePost x = Edges.made(y -> {
+                Edges.flat(y, 50);
+                y.wheel(1, 0);
+                y.terms(1, 0);
+                y.terms(3, 5);
+                y.dairy(36);
+                y.height(36, 99);
+                Edges.under(y, "slows 0;shuts if speed>20");
+            });
+            EDGES.due("summer(" + seed + ", 10), all SHUT behind a STEP", x.summer(seed, 10), 0);
+            EDGES.due("drawn(28)", x.drawn(28), due[0]);
+            EDGES.due("drawn(37)", x.drawn(37), due[1]);
+        }
         // Where it stays, one DRAW was made for the STEP that it does not make.
         for (int seed = 0; seed < 40; seed++) {
             int[] due = new int[2];
